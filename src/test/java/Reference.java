@@ -71,6 +71,15 @@ final class Reference {
         return other;
     }
 
+    boolean holds(int[] rule) {
+        for (int[] there : rules) {
+            if (there[0] == rule[0] && there[1] == rule[1] && there[2] == rule[2] && there[3] == rule[3]) {
+                return true;
+            }
+        }
+        return false;
+    }
+
     int finalNode() {
         return 30 + start.length;
     }
