@@ -208,7 +208,7 @@ public final class StackLab {
         if (costTo(p) >= NO_COST) {
             return NONE;
         }
-        followWitness();
+        trace.follow(search, plan);
         return k < trace.length ? trace.part(k, what) : NONE;
     }
 
@@ -402,7 +402,6 @@ public final class StackLab {
     private void forgetAnswers() {
         planned = false;
         search.forgetAim();
-        trace.followed = false;
         machine.built = false;
     }
 
@@ -416,9 +415,7 @@ public final class StackLab {
 
     private void buildMachine() {
         makePlan();
-        if (!machine.built) {
-            machine.build();
-        }
+        machine.build();
     }
 
     /** The cost of the best runs to the configuration whose stack stands in asked. */
@@ -439,15 +436,9 @@ public final class StackLab {
         return detour.costFrom(plan.startState, plan.start);
     }
 
-    private void followWitness() {
-        if (!trace.followed) {
-            trace.follow(search, plan);
-        }
-    }
-
     /** A rule that is not in the witness is not critical; a witness too long to trace clears none. */
     private int rulesOfWitness() {
-        followWitness();
+        trace.follow(search, plan);
         return trace.complete ? trace.used : (1 << now.count) - 1;
     }
 
@@ -1070,6 +1061,7 @@ public final class StackLab {
 
     /** The first rules of a witness, and the configurations before them. */
     private static final class Trace {
+        /** To be set to false when the search gets another aim. */
         boolean followed = false;
         /** Tells whether the whole witness is here. */
         boolean complete = false;
@@ -1082,6 +1074,9 @@ public final class StackLab {
         private final int[] heights = new int[TRACED];
 
         void follow(Search search, Plan plan) {
+            if (followed) {
+                return;
+            }
             int state = plan.startState;
             long left = search.costFrom(state, plan.start);
             length = 0;
@@ -1146,6 +1141,9 @@ public final class StackLab {
         }
 
         void build() {
+            if (built) {
+                return;
+            }
             Arrays.fill(weights, NONE);
             for (int e = 0; e < ENDS; e++) {
                 Arrays.fill(reads[e], NO_COST);

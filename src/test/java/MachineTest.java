@@ -108,6 +108,10 @@ final class MachineTest {
                     lab.arcWeight(call[0], call[1], call[2]), NONE);
         }
         CHECKS.due("arcWeight(0, 1, 31)", lab.arcWeight(0, 1, 31), 0);
+        lab.addRule(0, 1, 1, 0, 2);
+        CHECKS.due("arcWeight(1, 0, 31)", lab.arcWeight(1, 0, 31), 2);
+        CHECKS.due("arcWeight(0, 6, 31)", lab.arcWeight(0, 6, 31), NONE);
+        CHECKS.due("arcWeight(1, -6, 31)", lab.arcWeight(1, -6, 31), NONE);
     }
 
     private static void answersFollowChanges() {
