@@ -51,22 +51,8 @@ final class HeavyTest {
         return system;
     }
 
-    private static StackLab labOf(Reference system) {
-        StackLab lab = new StackLab();
-        lab.begin(system.states, system.symbols);
-        for (int[] rule : system.rules) {
-            lab.addRule(rule[0], rule[1], rule[2], rule[3], rule[4]);
-        }
-        int word = 0;
-        for (int symbol : system.start) {
-            word = word * 10 + symbol;
-        }
-        lab.setStart(system.startState, word);
-        return lab;
-    }
-
     private static void checkPrices(Reference system, String name) {
-        StackLab lab = labOf(system);
+        StackLab lab = system.makeLab();
         for (int p = 0; p < 4; p++) {
             for (int x = 1; x <= 5; x++) {
                 for (int q = 0; q < 4; q++) {
@@ -78,7 +64,7 @@ final class HeavyTest {
     }
 
     private static void checkEmptyStacks(Reference system, String name) {
-        StackLab lab = labOf(system);
+        StackLab lab = system.makeLab();
         for (int q = 0; q < 4; q++) {
             CHECKS.due(name + " distance(" + q + ", 0)", lab.distance(q, 0), system.distance(q, 0));
             CHECKS.due(name + " critical(" + q + ", 0)", lab.critical(q, 0), system.critical(q, 0));
@@ -91,7 +77,7 @@ final class HeavyTest {
         for (int r = 0; r < 20; r++) {
             system.rules.get(r)[4] = weights[r];
         }
-        StackLab lab = labOf(system);
+        StackLab lab = system.makeLab();
         CHECKS.due("price at the limit", lab.wordPrice(0, 223233, 0), LIMIT);
         CHECKS.due("the same by the reference", system.wordPrice(0, 223233, 0), LIMIT);
         lab.setWeight(16, 11);
@@ -112,7 +98,7 @@ final class HeavyTest {
                 inStateZero = p == 0 ? x : inStateZero;
             }
         }
-        StackLab lab = labOf(system.startingAt(3, 5));
+        StackLab lab = system.startingAt(3, 5).makeLab();
         CHECKS.due("long: steps(0, 0)", lab.steps(0, 0), 4999);
         CHECKS.due("long: distance(0, 0)", lab.distance(0, 0), lab.price(3, 5, 0));
         CHECKS.due("long: mean(0, 0)", lab.mean(0, 0), (float) lab.price(3, 5, 0) / 4999.0f);
@@ -141,7 +127,7 @@ final class HeavyTest {
             system.rules.add(rule);
         }
         Reference from = system.startingAt(0, 1, 1, 1, 1);
-        StackLab lab = labOf(from);
+        StackLab lab = from.makeLab();
         for (Reference.Run run : from.nearestRuns(2000)) {
             if (run.stack.isEmpty()) {
                 CHECKS.due("ties: steps(0, 0)", lab.steps(run.state, 0), run.rules.length);

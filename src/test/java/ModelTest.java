@@ -103,14 +103,6 @@ final class ModelTest {
         return digits.matches("[1-" + now.symbols + "]{" + least + "," + most + "}");
     }
 
-    private int startNumber() {
-        int number = 0;
-        for (int symbol : now.start) {
-            number = number * 10 + symbol;
-        }
-        return number;
-    }
-
     /** Records the present system and leaves a copy of it to be changed. */
     private void record() {
         past.addLast(now);
@@ -366,7 +358,7 @@ final class ModelTest {
     private void told(String name, int what) {
         int due = BAD_VALUE;
         if (what >= 0 && what < 5) {
-            due = new int[] {now.states, now.symbols, now.rules.size(), now.startState, startNumber()}[what];
+            due = new int[] {now.states, now.symbols, now.rules.size(), now.startState, now.startNumber()}[what];
         } else if (what >= 5 && what < 8) {
             due = 0;
             for (int[] rule : now.rules) {

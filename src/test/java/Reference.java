@@ -71,6 +71,25 @@ final class Reference {
         return other;
     }
 
+    /** A new object of the class under test with this system, made by as many calls as rules and two more. */
+    StackLab makeLab() {
+        StackLab lab = new StackLab();
+        lab.begin(states, symbols);
+        for (int[] rule : rules) {
+            lab.addRule(rule[0], rule[1], rule[2], rule[3], rule[4]);
+        }
+        lab.setStart(startState, startNumber());
+        return lab;
+    }
+
+    int startNumber() {
+        int number = 0;
+        for (int symbol : start) {
+            number = number * 10 + symbol;
+        }
+        return number;
+    }
+
     boolean holds(int[] rule) {
         for (int[] there : rules) {
             if (there[0] == rule[0] && there[1] == rule[1] && there[2] == rule[2] && there[3] == rule[3]) {

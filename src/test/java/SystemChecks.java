@@ -53,16 +53,7 @@ final class SystemChecks {
     }
 
     private void makeLab() {
-        lab = new StackLab();
-        lab.begin(due.states, due.symbols);
-        for (int[] rule : due.rules) {
-            lab.addRule(rule[0], rule[1], rule[2], rule[3], rule[4]);
-        }
-        int word = 0;
-        for (int symbol : due.start) {
-            word = word * 10 + symbol;
-        }
-        lab.setStart(due.startState, word);
+        lab = due.makeLab();
         calls = due.rules.size() + 2;
     }
 
