@@ -1,15 +1,23 @@
+import java.util.function.Supplier;
+import java.util.function.ToDoubleFunction;
+
 /** Counts the answers that are not as due, and ends a test. */
 final class Checks {
     private static final int SHOWN = 40;
+    private final String title;
     private int wrong = 0;
     private long made = 0;
+
+    Checks(String title) {
+        this.title = title;
+    }
 
     void due(String call, double got, double want) {
         made++;
         if (Double.compare(got, want) != 0) {
             wrong++;
             if (wrong <= SHOWN) {
-                System.out.println(call + " answered " + got + ", due is " + want);
+                System.out.println(title + ": " + call + " answered " + got + ", due is " + want);
             }
         }
     }
@@ -23,6 +31,15 @@ final class Checks {
 
     void dueTrue(String what, boolean got) {
         due(what, got ? 1 : 0, 1);
+    }
+
+    /** "A call that reports an error changes nothing": the object is held against one without the call. */
+    void refused(String call, double error, Supplier<StackLab> make, ToDoubleFunction<StackLab> refusal) {
+        StackLab asked = make.get();
+        due(call, refusal.applyAsDouble(asked), error);
+        String seen = Labs.seen(asked);
+        String before = Labs.seen(make.get());
+        dueTrue(call + " changes nothing, but " + before + " became " + seen, seen.equals(before));
     }
 
     void end() {

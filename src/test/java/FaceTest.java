@@ -19,7 +19,7 @@ final class FaceTest {
         "int arcWeight(int,int,int)", "int distanceWithout(int,int,int)", "int critical(int,int)",
         "int tolerance(int,int,int)", "int write(int)", "int wipe()", "int fault()", "int load()"};
 
-    private static final Checks CHECKS = new Checks();
+    private static final Checks CHECKS = new Checks("the face");
 
     private FaceTest() {
     }
@@ -62,6 +62,9 @@ final class FaceTest {
         Set<String> hiddenNames = new TreeSet<>();
         for (Method method : StackLab.class.getDeclaredMethods()) {
             String signature = signature(method);
+            if (method.isSynthetic()) {
+                continue;
+            }
             if (isShown(method, signature)) {
                 CHECKS.dueTrue(signature + " is in the document", due.remove(signature));
                 CHECKS.dueTrue(signature + " is of the object", !Modifier.isStatic(method.getModifiers()));
@@ -80,6 +83,9 @@ final class FaceTest {
                 "NOT_POSSIBLE", -5, "NONE", -6));
         for (Field field : StackLab.class.getDeclaredFields()) {
             int modifiers = field.getModifiers();
+            if (field.isSynthetic()) {
+                continue;
+            }
             CHECKS.dueTrue(field.getName() + ": what is static is final",
                     !Modifier.isStatic(modifiers) || Modifier.isFinal(modifiers));
             if (isShown(field, field.getName())) {

@@ -8,7 +8,7 @@ import java.util.Random;
  * the system as it is then, whatever was asked or undone before.
  */
 final class ModelTest {
-    private static final int RUNS = 250;
+    private static final int RUNS = 160;
     private static final int CALLS = 512;
     private static final int BAD_NAME = -1;
     private static final int BAD_VALUE = -2;
@@ -19,7 +19,7 @@ final class ModelTest {
     private static final int[] ODD = {-1, 0, 6, 7, 10, 21, 101, 301, 1111111, 1000000000, Integer.MIN_VALUE,
         Integer.MAX_VALUE};
 
-    private final Checks checks = new Checks();
+    private final Checks checks = new Checks("runs of calls");
     private final Random random = new Random(512);
     private StackLab lab;
     private Reference now;

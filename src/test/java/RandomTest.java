@@ -5,7 +5,7 @@ import java.util.Random;
  * compiled with this limit in place of 1000000.
  */
 final class RandomTest {
-    private static final int SYSTEMS = 700;
+    private static final int SYSTEMS = 400;
 
     private final Random random = new Random(20261118);
     private final int limit;
@@ -16,7 +16,7 @@ final class RandomTest {
 
     public static void main(String[] args) {
         RandomTest test = new RandomTest(args.length == 0 ? 1000000 : Integer.parseInt(args[0]));
-        Checks checks = new Checks();
+        Checks checks = new Checks("random systems");
         for (int k = 0; k < SYSTEMS; k++) {
             new SystemChecks(checks, test.random, test.makeSystem(k), "system " + k).checkAll();
         }

