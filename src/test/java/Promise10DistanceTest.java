@@ -17,6 +17,7 @@ final class Promise10DistanceTest {
         appliesRulesOnTopAlone();
         reachesStacksOf6Symbols();
         goesOverTallerStacks();
+        goesThroughEachState();
         endsAtTheLimit();
         addsUpToTheLimit();
         followsChanges();
@@ -134,6 +135,31 @@ final class Promise10DistanceTest {
         distanceIs(lab, 3, 0, 15);
         distanceIs(lab, 3, 2, 14);
         distanceIs(lab, 0, 0, StackLab.NONE);
+    }
+
+    /** The symbol below a push is reached in any state in which the upper one was removed. */
+    private static void goesThroughEachState() {
+        for (int middle = 0; middle < 4; middle++) {
+            StackLab lab = new StackLab();
+            lab.begin(4, 5);
+            lab.setStart(3, 15);
+            lab.addRule(middle, 4, 1, 45, 1);
+            lab.addRule(middle, 3, middle, 4, 2);
+            lab.addRule(3, 2, middle, 0, 3);
+            lab.addRule(3, 1, 3, 23, 4);
+            distanceIs(lab, middle, 35, 7);
+            distanceIs(lab, middle, 45, 9);
+            distanceIs(lab, 1, 455, 10);
+        }
+        for (int middle = 0; middle < 4; middle++) {
+            StackLab lab = new StackLab();
+            lab.begin(4, 5);
+            lab.setStart(3, 55);
+            lab.addRule(3, 5, 3, 1, 1);
+            lab.addRule(3, 1, 3, 23, 2);
+            lab.addRule(3, 2, middle, 0, 3);
+            distanceIs(lab, middle, 35, 6);
+        }
     }
 
     /** "Only runs whose weight is at most 1000000 are considered." */

@@ -14,6 +14,7 @@ final class Promise14HeadDistanceTest {
         isLeastOverAllStacks();
         looksBelowWhatIsRemoved();
         countsNoEmptyStack();
+        goesThroughEachNode();
         looksAtTallStacksToo();
         endsAtTheLimit();
         followsChanges();
@@ -56,11 +57,7 @@ final class Promise14HeadDistanceTest {
     }
 
     private static void looksBelowWhatIsRemoved() {
-        StackLab lab = new StackLab();
-        lab.setStart(0, 1223);
-        lab.addRule(0, 1, 0, 0, 1);
-        lab.addRule(0, 2, 1, 0, 2);
-        lab.addRule(1, 2, 0, 0, 3);
+        StackLab lab = Labs.removing();
         headIs(lab, 0, 2, 1);
         headIs(lab, 1, 2, 3);
         headIs(lab, 0, 3, 6);
@@ -76,17 +73,22 @@ final class Promise14HeadDistanceTest {
         }
     }
 
+    /** Each pair of a state and a symbol can be what a push puts on top, and what others come from. */
+    private static void goesThroughEachNode() {
+        for (int q = 0; q < 4; q++) {
+            for (int y = 1; y <= 5; y++) {
+                StackLab lab = Labs.pushingTo(q, y);
+                headIs(lab, q, y, 6);
+                headIs(lab, (q + 2) % 4, 1, 11);
+                headIs(lab, (q + 3) % 4, 2, 15);
+            }
+        }
+    }
+
     /** Only nearestStack() minds that a stack has more than 6 symbols. */
     private static void looksAtTallStacksToo() {
-        StackLab lab = new StackLab();
-        lab.begin(4, 1);
-        lab.addRule(0, 1, 1, 11, 1);
-        lab.addRule(1, 1, 2, 11, 1);
-        lab.addRule(2, 1, 3, 11, 1);
-        lab.setStart(0, 111);
-        headIs(lab, 3, 1, 3);
-        lab.setStart(0, 1111);
-        headIs(lab, 3, 1, 3);
+        headIs(Labs.climbing(111), 3, 1, 3);
+        headIs(Labs.climbing(1111), 3, 1, 3);
     }
 
     /** "Only runs whose weight is at most 1000000 are considered." */

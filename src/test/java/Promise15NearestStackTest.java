@@ -15,6 +15,8 @@ final class Promise15NearestStackTest {
         takesTheFewestSymbolsOfOneDistance();
         takesTheLeastNumberOfOneLength();
         tellsWhatIsBelow();
+        goesThroughEachNode();
+        mixesNoNodes();
         tellsAtMost6Symbols();
         tellsNoLongerStackInPlaceOfAHeavierOne();
         endsAtTheLimit();
@@ -86,14 +88,34 @@ final class Promise15NearestStackTest {
     }
 
     private static void tellsWhatIsBelow() {
-        StackLab lab = new StackLab();
-        lab.setStart(0, 1223);
-        lab.addRule(0, 1, 0, 0, 1);
-        lab.addRule(0, 2, 1, 0, 2);
-        lab.addRule(1, 2, 0, 0, 3);
+        StackLab lab = Labs.removing();
         stackIs(lab, 0, 2, 223);
         stackIs(lab, 1, 2, 23);
         stackIs(lab, 0, 3, 3);
+    }
+
+    /** Each pair of a state and a symbol can be what a push puts on top, and what others come from. */
+    private static void goesThroughEachNode() {
+        for (int q = 0; q < 4; q++) {
+            for (int y = 1; y <= 5; y++) {
+                StackLab lab = Labs.pushingTo(q, y);
+                stackIs(lab, q, y, y * 100 + 24);
+                stackIs(lab, (q + 2) % 4, 1, 124);
+                stackIs(lab, (q + 3) % 4, 2, 24);
+            }
+        }
+    }
+
+    /** What lies below one pair with the same distance is no stack of another. */
+    private static void mixesNoNodes() {
+        StackLab lab = new StackLab();
+        lab.setStart(1, 23);
+        lab.addRule(1, 2, 0, 11, 1);
+        lab.addRule(1, 2, 1, 33, 1);
+        lab.addRule(1, 2, 1, 12, 1);
+        stackIs(lab, 0, 1, 113);
+        stackIs(lab, 1, 1, 123);
+        stackIs(lab, 1, 3, 333);
     }
 
     /** "NONE .. if the fewest symbols are more than 6". */
@@ -109,17 +131,14 @@ final class Promise15NearestStackTest {
         lab.setStart(0, 1222);
         stackIs(lab, 2, 1, 121222);
         stackIs(lab, 3, 1, StackLab.NONE);
+        stackIs(Labs.climbing(111), 3, 1, 111111);
+        stackIs(Labs.climbing(1111), 3, 1, StackLab.NONE);
     }
 
     /** A stack of 7 symbols with the least distance hides a shorter one with a greater distance. */
     private static void tellsNoLongerStackInPlaceOfAHeavierOne() {
-        StackLab lab = new StackLab();
-        lab.begin(4, 1);
-        lab.addRule(0, 1, 1, 11, 1);
-        lab.addRule(1, 1, 2, 11, 1);
-        lab.addRule(2, 1, 3, 11, 1);
+        StackLab lab = Labs.climbing(1111);
         lab.addRule(0, 1, 3, 1, 4);
-        lab.setStart(0, 1111);
         stackIs(lab, 3, 1, StackLab.NONE);
         lab.setWeight(3, 3);
         stackIs(lab, 3, 1, 1111);

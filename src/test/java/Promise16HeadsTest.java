@@ -56,13 +56,7 @@ final class Promise16HeadsTest {
     }
 
     private static void countsHeadsOfTallStacks() {
-        StackLab lab = new StackLab();
-        lab.begin(4, 1);
-        lab.addRule(0, 1, 1, 11, 1);
-        lab.addRule(1, 1, 2, 11, 1);
-        lab.addRule(2, 1, 3, 11, 1);
-        lab.setStart(0, 1111);
-        headsAre(lab, 4);
+        headsAre(Labs.climbing(1111), 4);
     }
 
     /** "Only runs whose weight is at most 1000000 are considered." */

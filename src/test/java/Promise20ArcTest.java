@@ -109,14 +109,7 @@ final class Promise20ArcTest {
 
     /** "for each state q and symbol Y the node 10 + 5 * q + Y - 1": from 10 up to 29. */
     private static void tellsTheNodesOfTheLastPairs() {
-        StackLab lab = new StackLab();
-        lab.begin(4, 5);
-        lab.setStart(3, 5);
-        lab.addRule(3, 5, 3, 51, 7);
-        lab.addRule(3, 5, 2, 45, 8);
-        lab.addRule(3, 5, 0, 15, 9);
-        machineIs(lab, new int[][] {{0, 1, 10, 0}, {2, 4, 23, 0}, {3, 5, 29, 0}, {3, 5, 31, 0}, {10, 5, 29, 9},
-            {10, 5, 31, 9}, {23, 5, 29, 8}, {23, 5, 31, 8}, {29, 1, 29, 7}, {29, 1, 31, 7}});
+        machineIs(Labs.lastPairs(), Labs.LAST_PAIRS);
     }
 
     /** "each has the least of the weights with which it follows", in whatever order the rules are. */
@@ -172,5 +165,10 @@ final class Promise20ArcTest {
         machineIs(lab, new int[][] {{0, 1, 31, 0}, {1, 0, 31, 5}});
         lab.begin(2, 3);
         machineIs(lab, new int[][] {{0, 1, 31, 0}});
+        lab.addRule(0, 1, 0, 12, 3);
+        int[][] arcs = {{0, 1, 10, 0}, {0, 1, 31, 0}, {10, 2, 10, 3}, {10, 2, 31, 3}};
+        machineIs(lab, arcs);
+        lab.setStart(0, 1);
+        machineIs(lab, arcs);
     }
 }

@@ -41,16 +41,6 @@ final class Promise21ArcWeightTest {
         }
     }
 
-    private static StackLab lastPairs() {
-        StackLab lab = new StackLab();
-        lab.begin(4, 5);
-        lab.setStart(3, 5);
-        lab.addRule(3, 5, 3, 51, 7);
-        lab.addRule(3, 5, 2, 45, 8);
-        lab.addRule(3, 5, 0, 15, 9);
-        return lab;
-    }
-
     private static StackLab longStart() {
         StackLab lab = new StackLab();
         lab.setStart(1, 3221);
@@ -63,9 +53,7 @@ final class Promise21ArcWeightTest {
         machineIs(StackLab::new, new int[][] {{0, 1, 31, 0}});
         machineIs(Promise21ArcWeightTest::longStart, new int[][] {{0, 0, 31, 4}, {1, 3, 31, 0}, {31, 2, 32, 0},
             {32, 2, 33, 0}, {33, 1, 34, 0}});
-        machineIs(Promise21ArcWeightTest::lastPairs, new int[][] {{0, 1, 10, 0}, {2, 4, 23, 0}, {3, 5, 29, 0},
-            {3, 5, 31, 0}, {10, 5, 29, 9}, {10, 5, 31, 9}, {23, 5, 29, 8}, {23, 5, 31, 8}, {29, 1, 29, 7},
-            {29, 1, 31, 7}});
+        machineIs(Labs::lastPairs, Labs.LAST_PAIRS);
     }
 
     /** "also if there are no such nodes". */

@@ -17,6 +17,7 @@ final class Promise23CriticalTest {
         hasBits0To19();
         reachesStacksOf6Symbols();
         endsAtTheLimit();
+        mindsNoOtherCall();
         followsChanges();
         CHECKS.end();
     }
@@ -104,6 +105,19 @@ final class Promise23CriticalTest {
             lab.addRule(1, 4, 0, 0, 20);
             criticalIs(lab, 0, 5, 1 << 19);
         }
+    }
+
+    /** What was asked of another configuration just before does not count. */
+    private static void mindsNoOtherCall() {
+        StackLab lab = Labs.used();
+        lab.witness(0, 213, 0, 0);
+        criticalIs(lab, 1, 13, 3);
+        lab.critical(0, 213);
+        criticalIs(lab, 0, 33, 7);
+        lab.witness(0, 33, 0, 0);
+        criticalIs(lab, 0, 13, 0);
+        lab.distanceWithout(0, 0, 33);
+        criticalIs(lab, 0, 33, 7);
     }
 
     private static void followsChanges() {
