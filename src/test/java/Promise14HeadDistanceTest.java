@@ -110,5 +110,13 @@ final class Promise14HeadDistanceTest {
         headIs(lab, 1, 2, 7);
         lab.removeRule(0);
         headIs(lab, 1, 2, StackLab.NONE);
+        lab.addRule(1, 2, 0, 32, 1);
+        lab.addRule(1, 2, 0, 33, 9);
+        lab.setStart(1, 2);
+        headIs(lab, 0, 3, 1);
+        lab.removeRule(1);
+        headIs(lab, 0, 3, 1);
+        lab.removeRule(0);
+        headIs(lab, 0, 3, StackLab.NONE);
     }
 }
